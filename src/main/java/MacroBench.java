@@ -863,21 +863,22 @@ public final class MacroBench {
 
         private void addItem(int line, int kind) {
             int operand = source.first(line);
-            int item = listing.add(line, kind, depth, valueOfItem(line, kind));
+            int value = valueOf(operand);
+            int item = listing.add(line, kind, depth, valueOfItem(kind, source.fixed(line), value));
             if (kind == LABEL) {
-                scopes.define(scopeOf(operand), valueOf(operand), item);
+                scopes.define(scopeOf(operand), value, item);
             }
             scopes.setHome(item, isReference(kind) ? scopeOf(operand) : NONE);
         }
 
-        private int valueOfItem(int line, int kind) {
+        private static int valueOfItem(int kind, int fixed, int value) {
             switch (kind) {
                 case OPERATION:
-                    return 100 * source.fixed(line) + valueOf(source.first(line));
+                    return 100 * fixed + value;
                 case ALIGNMENT:
-                    return source.fixed(line);
+                    return fixed;
                 default:
-                    return valueOf(source.first(line));
+                    return value;
             }
         }
 
@@ -918,8 +919,10 @@ public final class MacroBench {
             if (depth >= MAX_MACROS) {
                 return line + 1;
             }
-            pass(FIRST_ARGUMENT, source.first(line));
-            pass(SECOND_ARGUMENT, source.second(line));
+            int first = source.first(line);
+            int second = source.second(line);
+            pass(FIRST_ARGUMENT, valueOf(first), scopeOf(first));
+            pass(SECOND_ARGUMENT, valueOf(second), scopeOf(second));
             scopes.open(OUTERMOST);
             depth++;
             callLines[depth] = line;
@@ -937,11 +940,11 @@ public final class MacroBench {
         }
 
         /** Puts an argument where the next depth finds it, with the scope to which its name belongs. */
-        private void pass(int argument, int operand) {
+        private void pass(int argument, int value, int scope) {
             int place = placeOf(argument, depth + 1);
             if (place >= 0 && place < arguments.length && place < argumentScopes.length) {
-                arguments[place] = valueOf(operand);
-                argumentScopes[place] = scopeOf(operand);
+                arguments[place] = value;
+                argumentScopes[place] = scope;
             }
         }
 
@@ -1056,17 +1059,19 @@ public final class MacroBench {
         static final int BAD_LOOP = -1;
         private static final int UNKNOWN = -2;
         private static final int MOST = 1000000;
-        /** Some 11,000 different calls are the most that 80 lines lead to; more would be counted each time. */
-        private static final int MEMORY_BITS = 14;
+        /** Enough for any usual program; in one made for it, some calls are forgotten and counted again. */
+        private static final int MEMORY_BITS = 12;
         private static final int MEMORY = 1 << MEMORY_BITS;
+        /** In how many places a count is looked for. */
+        private static final int WINDOW = 8;
         private static final long KEYS_A_GENERATION = 1000L * 1000L * MAX_MACROS;
         private static final long SPREAD = 0x9E3779B97F4A7C15L;
 
         private final Source source;
         /** The factor outside of each group; no line is counted within itself, so one place a line is enough. */
         private final int[] outerFactors = new int[MAX_LINES];
-        private long[] keys = new long[0];
-        private int[] counts = new int[0];
+        private final long[] keys = new long[MEMORY];
+        private final int[] counts = new int[MEMORY];
         /** Grows when the macros are removed, so that older keys are free places. */
         private long generation = 1;
 
@@ -1080,10 +1085,6 @@ public final class MacroBench {
 
         /** Gives MOST if there would be more, or BAD_LOOP. */
         int countProgram() {
-            if (keys.length == 0) {
-                keys = new long[MEMORY];
-                counts = new int[MEMORY];
-            }
             return countLines(0, source.size(), MAX_MACROS, 0, 0);
         }
 
@@ -1153,27 +1154,29 @@ public final class MacroBench {
 
         private int recall(long key) {
             int place = placeOf(key);
-            return place != NONE && keys[place] == key ? at(counts, place) : UNKNOWN;
+            return keys[place] == key ? counts[place] : UNKNOWN;
         }
 
         private void remember(long key, int count) {
             int place = placeOf(key);
-            if (place != NONE && place < counts.length) {
-                keys[place] = key;
-                counts[place] = count;
-            }
+            keys[place] = key;
+            counts[place] = count;
         }
 
-        /** The place of the key, or a free one for it, or NONE. */
+        /** The place of the key, or else a free one, or else one whose count gives way. */
         private int placeOf(long key) {
             int start = (int) ((key * SPREAD) >>> (64 - MEMORY_BITS));
-            for (int step = 0; step < keys.length; step++) {
-                int place = (start + step) % keys.length;
-                if (keys[place] == key || keys[place] < generation * KEYS_A_GENERATION) {
+            int found = start & (MEMORY - 1);
+            for (int step = WINDOW - 1; step >= 0; step--) {
+                int place = (start + step) & (MEMORY - 1);
+                if (keys[place] == key) {
                     return place;
                 }
+                if (keys[place] < generation * KEYS_A_GENERATION) {
+                    found = place;
+                }
             }
-            return NONE;
+            return found;
         }
     }
 }

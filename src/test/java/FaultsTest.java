@@ -157,9 +157,14 @@ public final class FaultsTest {
         fault("both arguments are the same name", z, 'd', 2);
     }
 
-    /** As many words as told, out of loops of 9 words with single words behind them. */
+    /** As many words as told, out of a loop in a loop with single words behind them. */
     private static MacroBench manyWords(int count) {
         MacroBench x = new MacroBench();
+        addWords(x, count);
+        return x;
+    }
+
+    private static void addWords(MacroBench x, int count) {
         x.loop(9);
         x.loop(9);
         x.word(1);
@@ -169,7 +174,6 @@ public final class FaultsTest {
         for (int word = 162; word < count; word++) {
             x.word(3);
         }
-        return x;
     }
 
     private static void tooManyItems() {
@@ -198,9 +202,14 @@ public final class FaultsTest {
         fault("the item would be the 201st within loops", z, 'f', 3);
     }
 
-    /** 911 lines are expanded that are no items: loops, and conditions that do not hold. */
-    private static MacroBench manyLines() {
+    private static MacroBench linesUpTo(int count) {
         MacroBench x = new MacroBench();
+        addLines(x, count);
+        return x;
+    }
+
+    /** Lines of which as many as told are expanded: 820, 91 and 81 of groups alone, and single words. */
+    private static void addLines(MacroBench x, int count) {
         x.loop(9);
         x.loop(9);
         x.loop(9);
@@ -216,31 +225,6 @@ public final class FaultsTest {
         x.end();
         x.end();
         x.end();
-        return x;
-    }
-
-    private static void tooManyLines() {
-        MacroBench x = manyLines();
-        x.loop(8);
-        x.loop(9);
-        x.block();
-        x.end();
-        x.end();
-        x.end();
-        // 911 + 1 + 8 + 72 = 992 lines so far.
-        for (int line = 0; line < 8; line++) {
-            x.word(line);
-        }
-        noFault("1000 lines", x, 8);
-        int line = x.word(0);
-        fault("1001 lines", x, 'f', line);
-        x.clear();
-        Check.same("the line of the fault stays", line, x.faultLine());
-        noFault("cleared", x, 0);
-    }
-
-    private static MacroBench linesUpTo(int count) {
-        MacroBench x = manyLines();
         x.loop(8);
         x.loop(9);
         x.block();
@@ -250,7 +234,16 @@ public final class FaultsTest {
         for (int line = 992; line < count; line++) {
             x.word(0);
         }
-        return x;
+    }
+
+    private static void tooManyLines() {
+        MacroBench x = linesUpTo(1000);
+        noFault("1000 lines", x, 8);
+        int line = x.word(0);
+        fault("1001 lines", x, 'f', line);
+        x.clear();
+        Check.same("the line of the fault stays", line, x.faultLine());
+        noFault("cleared", x, 0);
     }
 
     private static void whatCountsAsExpanded() {
@@ -332,53 +325,19 @@ public final class FaultsTest {
         lines.label(0);
         int last = lines.label(0);
         fault("a name defined twice before the 1001st line", lines, 'd', last);
-        MacroBench loops = new MacroBench();
-        loops.macro();
-        loops.loop(-1);
-        loops.end();
-        loops.endMacro();
-        addLines(loops, 999);
-        loops.call(0, 10, 0);
-        fault("a bad argument before the 1001st line", loops, 'a', 1);
-        Check.same("a good argument at the 1001st line", 'f', goodLoopAtLimit());
+        fault("a bad argument before the 1001st line", loopByArgument(10), 'a', 1);
+        fault("a good argument at the 1001st line", loopByArgument(9), 'f', 1);
     }
 
-    private static char goodLoopAtLimit() {
-        MacroBench loops = new MacroBench();
-        loops.macro();
-        loops.loop(-1);
-        loops.end();
-        loops.endMacro();
-        addLines(loops, 999);
-        loops.call(0, 9, 0);
-        loops.assemble();
-        return loops.fault();
-    }
-
-    private static void addLines(MacroBench x, int count) {
-        x.loop(9);
-        x.loop(9);
-        x.loop(9);
-        x.block();
+    private static MacroBench loopByArgument(int count) {
+        MacroBench x = new MacroBench();
+        x.macro();
+        x.loop(-1);
         x.end();
-        x.end();
-        x.end();
-        x.end();
-        x.loop(9);
-        x.loop(9);
-        x.block();
-        x.end();
-        x.end();
-        x.end();
-        x.loop(8);
-        x.loop(9);
-        x.block();
-        x.end();
-        x.end();
-        x.end();
-        for (int line = 992; line < count; line++) {
-            x.word(0);
-        }
+        x.endMacro();
+        addLines(x, 999);
+        x.call(0, count, 0);
+        return x;
     }
 
     private static MacroBench manyWordsInMacro() {
@@ -386,15 +345,7 @@ public final class FaultsTest {
         x.macro();
         x.label(-1);
         x.endMacro();
-        x.loop(9);
-        x.loop(9);
-        x.word(1);
-        x.word(2);
-        x.end();
-        x.end();
-        for (int word = 162; word < 200; word++) {
-            x.word(3);
-        }
+        addWords(x, 200);
         return x;
     }
 
@@ -441,5 +392,19 @@ public final class FaultsTest {
         x.block();
         fault("not ended", x, 'b', 1);
         Check.throwing("passes are forgotten", MISSING, x::passes);
+        x.clear();
+        x.macro();
+        x.block();
+        x.operation(10, -1);
+        x.end();
+        x.endMacro();
+        x.call(0, 100, 0);
+        fault("in a block of a macro", x, 'a', 2);
+        x.clear();
+        x.label(0);
+        x.address(0);
+        noFault("the macro and its block are left behind", x, 1);
+        Check.same("depth", 0, x.depthOf(0));
+        Check.same("labelAddress in the outermost scope", 0, x.labelAddress(0));
     }
 }

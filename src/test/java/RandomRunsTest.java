@@ -132,7 +132,8 @@ public final class RandomRunsTest {
     }
 
     private int number(int most) {
-        return random.nextInt(wrongness) == 0 ? random.nextInt(1010) - 4 : argumentOr(Math.min(most, random.nextInt(numbers)));
+        boolean isOdd = random.nextInt(wrongness) == 0;
+        return isOdd ? random.nextInt(1010) - 4 : argumentOr(Math.min(most, random.nextInt(numbers)));
     }
 
     private int argumentOr(int number) {
@@ -178,7 +179,8 @@ public final class RandomRunsTest {
         if (draw < 1) {
             answer = ask("block");
         } else if (draw < 3) {
-            int count = random.nextInt(wrongness) == 0 ? random.nextInt(13) - 3 : argumentOr(random.nextInt(counts + 1));
+            boolean isOdd = random.nextInt(wrongness) == 0;
+            int count = isOdd ? random.nextInt(13) - 3 : argumentOr(random.nextInt(counts + 1));
             answer = ask("loop", count);
         } else {
             int one = number(999);
@@ -216,7 +218,8 @@ public final class RandomRunsTest {
         }
         int items = ask("items") instanceof Integer count ? count : 1;
         for (int item = -1; item <= items && same; item++) {
-            for (String name : new String[] {"lineOf", "kindOf", "depthOf", "addressOf", "addressByAdding", "targetOf"}) {
+            for (String name : new String[] {"lineOf", "kindOf", "depthOf", "addressOf", "addressByAdding",
+                "targetOf"}) {
                 ask(name, item);
             }
         }

@@ -324,6 +324,11 @@ public final class WordsTest {
         x.assemble();
         Check.same("no relocations", 0, x.relocations());
         Check.same("a word where an address was", 2, x.loadedWord(1, 100));
+        x.clear();
+        x.address(0);
+        x.label(0);
+        x.assemble();
+        Check.same("an address as the first word", 101, x.loadedWord(0, 100));
     }
 
     private static void labelAddresses() {
@@ -355,6 +360,16 @@ public final class WordsTest {
         }
         x.clear();
         Check.same("after clear", 1, x.labelAddress(0));
+        x.loop(0);
+        x.end();
+        x.word(0);
+        x.block();
+        x.label(0);
+        x.end();
+        x.label(1);
+        x.assemble();
+        Check.same("behind a loop without rounds", 1, x.labelAddress(1));
+        Check.throwing("no name of the first block is 20", MISSING, () -> x.labelAddress(20));
     }
 
     private static void mostWords() {
