@@ -916,7 +916,7 @@ public final class MacroBench {
         }
 
         private int enterMacro(int line) {
-            if (depth >= MAX_MACROS) {
+            if (depth < 0 || depth >= MAX_MACROS) {
                 return line + 1;
             }
             int first = source.first(line);
@@ -1154,13 +1154,16 @@ public final class MacroBench {
 
         private int recall(long key) {
             int place = placeOf(key);
-            return keys[place] == key ? counts[place] : UNKNOWN;
+            boolean isThere = place >= 0 && place < MEMORY && keys[place] == key;
+            return isThere ? counts[place] : UNKNOWN;
         }
 
         private void remember(long key, int count) {
             int place = placeOf(key);
-            keys[place] = key;
-            counts[place] = count;
+            if (place >= 0 && place < MEMORY) {
+                keys[place] = key;
+                counts[place] = count;
+            }
         }
 
         /** The place of the key, or else a free one, or else one whose count gives way. */

@@ -17,6 +17,8 @@ public final class CountingTest {
         manyMacros();
         manyArguments();
         rememberedOnlyUntilClear();
+        countsOfLoops();
+        pairsOfArguments();
         Check.finish();
     }
 
@@ -305,6 +307,56 @@ public final class CountingTest {
             Check.same("a macro of " + words + " words", (long) words, x.itemsByCounting());
             Check.same("clear", words + 3, x.clear());
             Check.same("cleared", 0L, x.itemsByCounting());
+        }
+    }
+
+    private static void countsOfLoops() {
+        for (int count = 0; count <= 11; count++) {
+            MacroBench x = new MacroBench();
+            x.macro();
+            x.loop(-2);
+            x.word(0);
+            x.label(0);
+            x.end();
+            x.endMacro();
+            x.call(0, 999, count);
+            Object due = count <= 9 ? (Object) (2L * count) : "throws UnsupportedOperationException";
+            Check.same("a loop whose count is the argument " + count, due, Check.outcome(x::itemsByCounting));
+            if (count <= 9) {
+                x.loop(count);
+                x.call(0, 0, 1);
+                x.end();
+                Check.same("a loop of " + count, 4L * count, x.itemsByCounting());
+            }
+        }
+    }
+
+    /** A word if the first argument is 0, and two if the second one is: no two of these calls are taken for one. */
+    private static void pairsOfArguments() {
+        int[] values = {0, 1, 2, 8, 9, 10, 99, 100, 498, 499, 500, 998, 999};
+        for (int first : values) {
+            MacroBench x = new MacroBench();
+            x.macro();
+            x.when(-1, 0);
+            x.word(0);
+            x.end();
+            x.when(-2, 0);
+            x.word(0);
+            x.word(0);
+            x.end();
+            x.endMacro();
+            x.macro();
+            x.call(0, -2, -1);
+            x.endMacro();
+            long due = 0;
+            for (int second : values) {
+                x.call(0, first, second);
+                due += (first == 0 ? 1 : 0) + (second == 0 ? 2 : 0);
+                Check.same("called with " + first + " and " + second, due, x.itemsByCounting());
+                x.call(1, first, second);
+                due += (second == 0 ? 1 : 0) + (first == 0 ? 2 : 0);
+                Check.same("called with them changed round", due, x.itemsByCounting());
+            }
         }
     }
 }

@@ -12,12 +12,10 @@ public final class FaultsTest {
         notEnded();
         badArgument();
         definedTwice();
-        tooManyItems();
-        tooManyLines();
-        whatCountsAsExpanded();
         unknownName();
-        firstOnTheSameLine();
         firstInOrder();
+        notEndedBeforeAllOthers();
+        argumentPassedOn();
         forgotten();
         Check.finish();
     }
@@ -157,132 +155,6 @@ public final class FaultsTest {
         fault("both arguments are the same name", z, 'd', 2);
     }
 
-    /** As many words as told, out of a loop in a loop with single words behind them. */
-    private static MacroBench manyWords(int count) {
-        MacroBench x = new MacroBench();
-        addWords(x, count);
-        return x;
-    }
-
-    private static void addWords(MacroBench x, int count) {
-        x.loop(9);
-        x.loop(9);
-        x.word(1);
-        x.word(2);
-        x.end();
-        x.end();
-        for (int word = 162; word < count; word++) {
-            x.word(3);
-        }
-    }
-
-    private static void tooManyItems() {
-        MacroBench x = manyWords(200);
-        noFault("200 items", x, 200);
-        Check.same("200 items: items", 200, x.items());
-        Check.same("200 items: counted", 200L, x.itemsByCounting());
-        int line = x.label(0);
-        fault("201 items", x, 'f', line);
-        Check.same("201 items: counted", 201L, x.itemsByCounting());
-        MacroBench y = manyWords(199);
-        y.block();
-        y.align(8);
-        y.end();
-        y.when(1, 1);
-        y.end();
-        noFault("lines of groups are no items", y, 200);
-        MacroBench z = new MacroBench();
-        z.loop(9);
-        z.loop(9);
-        z.loop(9);
-        z.word(0);
-        z.end();
-        z.end();
-        z.end();
-        fault("the item would be the 201st within loops", z, 'f', 3);
-    }
-
-    private static MacroBench linesUpTo(int count) {
-        MacroBench x = new MacroBench();
-        addLines(x, count);
-        return x;
-    }
-
-    /** Lines of which as many as told are expanded: 820, 91 and 81 of groups alone, and single words. */
-    private static void addLines(MacroBench x, int count) {
-        x.loop(9);
-        x.loop(9);
-        x.loop(9);
-        x.when(1, 2);
-        x.word(0);
-        x.end();
-        x.end();
-        x.end();
-        x.end();
-        x.loop(9);
-        x.loop(9);
-        x.when(1, 2);
-        x.end();
-        x.end();
-        x.end();
-        x.loop(8);
-        x.loop(9);
-        x.block();
-        x.end();
-        x.end();
-        x.end();
-        for (int line = 992; line < count; line++) {
-            x.word(0);
-        }
-    }
-
-    private static void tooManyLines() {
-        MacroBench x = linesUpTo(1000);
-        noFault("1000 lines", x, 8);
-        int line = x.word(0);
-        fault("1001 lines", x, 'f', line);
-        x.clear();
-        Check.same("the line of the fault stays", line, x.faultLine());
-        noFault("cleared", x, 0);
-    }
-
-    private static void whatCountsAsExpanded() {
-        MacroBench group = linesUpTo(999);
-        int when = group.when(1, 2);
-        group.end();
-        noFault("a condition that does not hold, as the 1000th", group, 7);
-        int block = group.block();
-        group.end();
-        fault("a block as the 1001st", group, 'f', block);
-        Check.same("lines in order", true, when < block);
-        MacroBench none = linesUpTo(1000);
-        int loop = none.loop(0);
-        none.word(1);
-        none.end();
-        fault("a loop without rounds as the 1001st", none, 'f', loop);
-        MacroBench rounds = linesUpTo(998);
-        rounds.loop(9);
-        rounds.end();
-        rounds.loop(9);
-        rounds.end();
-        noFault("a loop counts once, not for each round; ends do not count", rounds, 6);
-        MacroBench macro = linesUpTo(998);
-        macro.macro();
-        macro.word(8);
-        macro.endMacro();
-        macro.call(0, 0, 0);
-        noFault("a call and its line as the 1000th; the macro's own ends do not count", macro, 7);
-        int call = macro.call(0, 0, 0);
-        fault("a call as the 1001st", macro, 'f', call);
-        MacroBench inner = linesUpTo(999);
-        inner.macro();
-        int line = inner.lines();
-        inner.word(8);
-        inner.endMacro();
-        inner.call(0, 0, 0);
-        fault("the line of a macro as the 1001st", inner, 'f', line);
-    }
-
     private static void unknownName() {
         MacroBench x = new MacroBench();
         x.word(1);
@@ -313,42 +185,6 @@ public final class FaultsTest {
         fault("a macro does not see the names where it is called", z, 'u', 1);
     }
 
-    private static void firstOnTheSameLine() {
-        MacroBench argument = manyWordsInMacro();
-        argument.call(0, 20, 0);
-        fault("a bad argument before the 201st item", argument, 'a', 1);
-        MacroBench twice = manyWords(199);
-        twice.label(0);
-        int line = twice.label(0);
-        fault("a name defined twice before the 201st item", twice, 'd', line);
-        MacroBench lines = linesUpTo(999);
-        lines.label(0);
-        int last = lines.label(0);
-        fault("a name defined twice before the 1001st line", lines, 'd', last);
-        fault("a bad argument before the 1001st line", loopByArgument(10), 'a', 1);
-        fault("a good argument at the 1001st line", loopByArgument(9), 'f', 1);
-    }
-
-    private static MacroBench loopByArgument(int count) {
-        MacroBench x = new MacroBench();
-        x.macro();
-        x.loop(-1);
-        x.end();
-        x.endMacro();
-        addLines(x, 999);
-        x.call(0, count, 0);
-        return x;
-    }
-
-    private static MacroBench manyWordsInMacro() {
-        MacroBench x = new MacroBench();
-        x.macro();
-        x.label(-1);
-        x.endMacro();
-        addWords(x, 200);
-        return x;
-    }
-
     private static void firstInOrder() {
         MacroBench x = new MacroBench();
         x.macro();
@@ -370,6 +206,82 @@ public final class FaultsTest {
         fault("a name defined twice is expanded first", y, 'd', 5);
         y.block();
         fault("a block that is not ended is found first of all", y, 'b', 7);
+    }
+
+    private static void notEndedBeforeAllOthers() {
+        MacroBench x = new MacroBench();
+        x.macro();
+        x.label(-1);
+        x.endMacro();
+        x.address(9);
+        fault("an unknown name", x, 'u', 3);
+        x.block();
+        fault("an unknown name and a block that is not ended", x, 'b', 4);
+        x.end();
+        Programs.addWords(x, 200);
+        fault("a 201st item", x, 'f', x.lines() - 1);
+        x.when(1, 2);
+        fault("a 201st item and a condition that is not ended", x, 'b', x.lines() - 1);
+        x.clear();
+        x.macro();
+        x.label(-1);
+        x.endMacro();
+        x.call(0, 0, 0);
+        x.call(0, 0, 0);
+        fault("a name defined twice", x, 'd', 1);
+        x.macro();
+        fault("a name defined twice and a macro that is not ended", x, 'b', 5);
+        x.endMacro();
+        x.clear();
+        x.macro();
+        x.label(-1);
+        x.endMacro();
+        x.call(0, 20, 0);
+        x.macro();
+        x.loop(-1);
+        fault("a bad argument and a loop in a macro that is not ended", x, 'b', 5);
+        x.end();
+        fault("a bad argument and a macro that is not ended", x, 'b', 4);
+        x.endMacro();
+        fault("a bad argument", x, 'a', 1);
+    }
+
+    /** The line is the one with the operand, not that of a call on the way to it. */
+    private static void argumentPassedOn() {
+        MacroBench x = new MacroBench();
+        x.macro();
+        x.word(-1);
+        x.jump(-2);
+        x.endMacro();
+        x.macro();
+        x.call(0, -2, -1);
+        x.operation(10, -1);
+        x.endMacro();
+        x.call(1, 20, 999);
+        fault("an argument that was passed on", x, 'a', 2);
+        x.clear();
+        x.macro();
+        x.word(-1);
+        x.endMacro();
+        x.macro();
+        x.call(0, -1, 999);
+        x.operation(10, -1);
+        x.endMacro();
+        x.call(1, 100, 0);
+        fault("an argument behind a call that takes it", x, 'a', 5);
+        x.clear();
+        x.macro();
+        x.when(-1, 999);
+        x.loop(-1);
+        x.end();
+        x.end();
+        x.endMacro();
+        x.loop(3);
+        x.call(0, 9, 0);
+        x.end();
+        noFault("an argument in range in each round", x, 0);
+        x.call(0, 999, 0);
+        fault("an argument of a loop in a condition", x, 'a', 2);
     }
 
     private static void forgotten() {

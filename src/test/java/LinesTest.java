@@ -1,39 +1,20 @@
 import java.util.NoSuchElementException;
 
-/** Promises 1 to 17: what can be fed, what is refused and in which order, and the numbers that are answered. */
+/** Promises 1 and 9 to 17: a new object, groups and macros begun and ended, and what clear() removes. */
 public final class LinesTest {
     private static final Class<IllegalArgumentException> ARGUMENT = IllegalArgumentException.class;
     private static final Class<IllegalStateException> STATE = IllegalStateException.class;
     private static final Class<NoSuchElementException> MISSING = NoSuchElementException.class;
     private static final Class<UnsupportedOperationException> UNSUPPORTED = UnsupportedOperationException.class;
 
-    /** A call with one operand. */
-    private interface Feed {
-        int feed(MacroBench bench, int operand);
-    }
-
     private LinesTest() {
     }
 
     public static void main(String[] args) {
         newObject();
-        operandRange("label", 0, 19, true, (x, v) -> x.label(v));
-        operandRange("word", 0, 999, true, (x, v) -> x.word(v));
-        operandRange("operation's operand", 0, 99, true, (x, v) -> x.operation(10, v));
-        operandRange("operation's code", 10, 99, false, (x, v) -> x.operation(v, 0));
-        operandRange("jump", 0, 19, true, (x, v) -> x.jump(v));
-        operandRange("address", 0, 19, true, (x, v) -> x.address(v));
-        operandRange("align", 2, 8, false, (x, v) -> x.align(v));
-        operandRange("call's first", 0, 999, true, (x, v) -> x.call(0, v, 0));
-        operandRange("call's second", 0, 999, true, (x, v) -> x.call(0, 0, v));
-        operandRange("loop", 0, 9, true, (x, v) -> x.loop(v));
-        operandRange("when's first", 0, 999, true, (x, v) -> x.when(v, 0));
-        operandRange("when's second", 0, 999, true, (x, v) -> x.when(0, v));
-        calls();
         groups();
         macros();
-        eightyLines();
-        groupsAtEightyLines();
+        openAtEightyLines();
         clearing();
         Check.finish();
     }
@@ -48,59 +29,6 @@ public final class LinesTest {
         Check.throwing("words of a new object", MISSING, x::words);
         Check.throwing("items of a new object", MISSING, x::items);
         Check.same("clear of a new object", 0, x.clear());
-    }
-
-    private static MacroBench withEmptyMacro() {
-        MacroBench x = new MacroBench();
-        x.macro();
-        x.endMacro();
-        return x;
-    }
-
-    private static void operandRange(String what, int least, int most, boolean canBeArgument, Feed feed) {
-        int[] wrong = {least - 1, most + 1, -1, -2, -3, 1000, 1000000, Integer.MIN_VALUE, Integer.MAX_VALUE};
-        MacroBench x = withEmptyMacro();
-        for (int value : wrong) {
-            Check.throwing(what + " " + value + " in the program", ARGUMENT, () -> feed.feed(x, value));
-        }
-        Check.same(what + ": lines after refusals", 2, x.lines());
-        Check.same(what + " least", 2, feed.feed(x, least));
-        Check.same(what + " most", 3, feed.feed(x, most));
-        Check.same(what + ": lines", 4, x.lines());
-        MacroBench y = withEmptyMacro();
-        y.macro();
-        for (int value : wrong) {
-            if (value != -1 && value != -2) {
-                Check.throwing(what + " " + value + " in a macro", ARGUMENT, () -> feed.feed(y, value));
-            }
-        }
-        for (int value = -2; value <= -1; value++) {
-            int argument = value;
-            Object due = canBeArgument ? (Object) (5 + value) : "throws IllegalArgumentException";
-            Check.same(what + " " + value + " in a macro", due, Check.outcome(() -> feed.feed(y, argument)));
-        }
-        Check.same(what + " as a number in a macro", y.lines(), feed.feed(y, least));
-    }
-
-    private static void calls() {
-        MacroBench x = new MacroBench();
-        Check.throwing("call without macros", MISSING, () -> x.call(0, 0, 0));
-        x.macro();
-        Check.throwing("call of a macro that is not ended", MISSING, () -> x.call(0, 0, 0));
-        Check.throwing("call of no macro with a bad argument", MISSING, () -> x.call(0, -7, 0));
-        x.endMacro();
-        Check.same("call", 2, x.call(0, 5, 6));
-        for (int macro : new int[] {-1, -2, 1, 8, Integer.MAX_VALUE, Integer.MIN_VALUE}) {
-            Check.throwing("call of " + macro, MISSING, () -> x.call(macro, 0, 0));
-        }
-        Check.throwing("call with an argument outside of a macro", ARGUMENT, () -> x.call(0, -1, 0));
-        x.macro();
-        Check.throwing("call cannot take the macro from an argument", MISSING, () -> x.call(-1, 0, 0));
-        Check.throwing("a macro cannot call itself", MISSING, () -> x.call(1, 0, 0));
-        Check.same("call in a macro", 4, x.call(0, -1, -2));
-        x.endMacro();
-        Check.same("call of the second macro", 6, x.call(1, 0, 0));
-        Check.same("lines", 7, x.lines());
     }
 
     private static void groups() {
@@ -146,59 +74,22 @@ public final class LinesTest {
         Check.same("lines after refusals", 17, x.lines());
     }
 
-    private static void eightyLines() {
-        MacroBench x = withEmptyMacro();
-        for (int line = 2; line < 80; line++) {
-            Check.same("word at line " + line, line, x.word(0));
-        }
-        Check.throwing("label at 80 lines", STATE, () -> x.label(0));
-        Check.throwing("label 20 at 80 lines", ARGUMENT, () -> x.label(20));
-        Check.throwing("word at 80 lines", STATE, () -> x.word(0));
-        Check.throwing("word 1000 at 80 lines", ARGUMENT, () -> x.word(1000));
-        Check.throwing("operation at 80 lines", STATE, () -> x.operation(10, 0));
-        Check.throwing("operation 9 at 80 lines", ARGUMENT, () -> x.operation(9, 0));
-        Check.throwing("jump at 80 lines", STATE, () -> x.jump(0));
-        Check.throwing("jump 20 at 80 lines", ARGUMENT, () -> x.jump(20));
-        Check.throwing("address at 80 lines", STATE, () -> x.address(0));
-        Check.throwing("address -1 at 80 lines", ARGUMENT, () -> x.address(-1));
-        Check.throwing("align at 80 lines", STATE, () -> x.align(2));
-        Check.throwing("align 1 at 80 lines", ARGUMENT, () -> x.align(1));
-        Check.throwing("call at 80 lines", STATE, () -> x.call(0, 0, 0));
-        Check.throwing("call of 1 at 80 lines", MISSING, () -> x.call(1, 0, 0));
-        Check.throwing("call with 1000 at 80 lines", ARGUMENT, () -> x.call(0, 0, 1000));
-        Check.throwing("block at 80 lines", STATE, x::block);
-        Check.throwing("loop at 80 lines", STATE, () -> x.loop(0));
-        Check.throwing("loop 10 at 80 lines", ARGUMENT, () -> x.loop(10));
-        Check.throwing("when at 80 lines", STATE, () -> x.when(0, 0));
-        Check.throwing("when 1000 at 80 lines", ARGUMENT, () -> x.when(1000, 0));
-        Check.throwing("macro at 80 lines", STATE, x::macro);
-        Check.throwing("end at 80 lines without a group", UNSUPPORTED, x::end);
-        Check.throwing("endMacro at 80 lines without a macro", UNSUPPORTED, x::endMacro);
-        Check.same("lines", 80, x.lines());
-        Check.same("macros", 1, x.macros());
-        Check.same("assemble", 78, x.assemble());
-    }
-
-    private static void groupsAtEightyLines() {
+    private static void openAtEightyLines() {
         MacroBench x = new MacroBench();
         x.macro();
         for (int line = 1; line < 80; line++) {
-            x.block();
+            Check.same("a group in a group", line, x.block());
         }
-        Check.throwing("end at 80 lines", STATE, x::end);
-        Check.throwing("endMacro at 80 lines with a group", UNSUPPORTED, x::endMacro);
-        Check.throwing("macro at 80 lines with a group", UNSUPPORTED, x::macro);
-        Check.same("assemble 79 open groups", -1, x.assemble());
-        Check.same("the innermost one", 79, x.faultLine());
+        Check.same("79 open groups: assemble", -1, x.assemble());
+        Check.same("79 open groups: the innermost one", 79, x.faultLine());
         MacroBench y = new MacroBench();
-        y.macro();
-        for (int line = 1; line < 80; line++) {
-            y.word(-1);
+        for (int group = 0; group < 40; group++) {
+            y.block();
         }
-        Check.throwing("endMacro at 80 lines", STATE, y::endMacro);
-        Check.throwing("macro in a macro at 80 lines", UNSUPPORTED, y::macro);
-        Check.same("the macro is still open", -1, y.assemble());
-        Check.same("its line", 0, y.faultLine());
+        for (int group = 0; group < 40; group++) {
+            Check.same("end of group " + group, 40 + group, y.end());
+        }
+        Check.same("40 groups in one another: assemble", 0, y.assemble());
     }
 
     private static void clearing() {

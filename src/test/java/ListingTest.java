@@ -1,9 +1,5 @@
-import java.util.NoSuchElementException;
-
 /** Promises 29 to 37: what the listing tells of each item, and the shares and means. */
 public final class ListingTest {
-    private static final Class<NoSuchElementException> MISSING = NoSuchElementException.class;
-    private static final Class<IndexOutOfBoundsException> INDEX = IndexOutOfBoundsException.class;
     private static final Class<ArithmeticException> ARITHMETIC = ArithmeticException.class;
     private static final Class<UnsupportedOperationException> UNSUPPORTED = UnsupportedOperationException.class;
 
@@ -11,38 +7,12 @@ public final class ListingTest {
     }
 
     public static void main(String[] args) {
-        beforeAssembling();
         oneOfEach();
         depths();
-        wrongItems();
         shares();
         means();
         listingStays();
         Check.finish();
-    }
-
-    private static void beforeAssembling() {
-        MacroBench x = new MacroBench();
-        x.word(1);
-        allMissing("nothing assembled", x);
-        x.address(0);
-        x.assemble();
-        allMissing("a fault", x);
-    }
-
-    private static void allMissing(String what, MacroBench x) {
-        Check.throwing(what + ": items", MISSING, x::items);
-        for (int item = -1; item <= 1; item++) {
-            int asked = item;
-            Check.throwing(what + ": lineOf", MISSING, () -> x.lineOf(asked));
-            Check.throwing(what + ": kindOf", MISSING, () -> x.kindOf(asked));
-            Check.throwing(what + ": depthOf", MISSING, () -> x.depthOf(asked));
-            Check.throwing(what + ": addressOf", MISSING, () -> x.addressOf(asked));
-            Check.throwing(what + ": addressByAdding", MISSING, () -> x.addressByAdding(asked));
-            Check.throwing(what + ": targetOf", MISSING, () -> x.targetOf(asked));
-        }
-        Check.throwing(what + ": shortShare", MISSING, x::shortShare);
-        Check.throwing(what + ": meanWord", MISSING, x::meanWord);
     }
 
     private static void row(MacroBench x, int item, int line, char kind, int depth, int address, int target) {
@@ -129,22 +99,6 @@ public final class ListingTest {
         }
         Check.same("depth in a loop", 1, x.depthOf(9));
         Check.same("depth in its second round", 1, x.depthOf(10));
-    }
-
-    private static void wrongItems() {
-        MacroBench x = shortJump();
-        for (int item : new int[] {-1, 2, 200, Integer.MIN_VALUE, Integer.MAX_VALUE}) {
-            Check.throwing("lineOf " + item, INDEX, () -> x.lineOf(item));
-            Check.throwing("kindOf " + item, INDEX, () -> x.kindOf(item));
-            Check.throwing("depthOf " + item, INDEX, () -> x.depthOf(item));
-            Check.throwing("addressOf " + item, INDEX, () -> x.addressOf(item));
-            Check.throwing("addressByAdding " + item, INDEX, () -> x.addressByAdding(item));
-            Check.throwing("targetOf " + item, INDEX, () -> x.targetOf(item));
-        }
-        MacroBench none = new MacroBench();
-        none.assemble();
-        Check.same("no items", 0, none.items());
-        Check.throwing("item 0 of none", INDEX, () -> none.lineOf(0));
     }
 
     private static void shares() {

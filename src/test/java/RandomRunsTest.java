@@ -1,6 +1,3 @@
-import java.lang.reflect.InvocationTargetException;
-import java.lang.reflect.Method;
-import java.util.HashMap;
 import java.util.Map;
 import java.util.Random;
 import java.util.TreeMap;
@@ -9,13 +6,10 @@ import java.util.TreeMap;
 public final class RandomRunsTest {
     private static final int RUNS = 1500;
     private static final int CALLS = 400;
-    private static final Map<String, Method[]> METHODS = new HashMap<>();
     private static final Map<String, Integer> OUTCOMES = new TreeMap<>();
 
     private final Random random;
-    private final MacroBench bench = new MacroBench();
-    private final Model model = new Model();
-    private final StringBuilder told = new StringBuilder();
+    private final Twins twins = new Twins();
     /** How a run is: names and numbers that are drawn, and how bold the loops are. */
     private final int names;
     private final int numbers;
@@ -25,9 +19,8 @@ public final class RandomRunsTest {
     private int depth;
     private boolean inMacro;
     private int macros;
-    private boolean same = true;
 
-    private RandomRunsTest(long seed) {
+    private RandomRunsTest(long seed) throws ReflectiveOperationException {
         random = new Random(seed);
         names = 1 + random.nextInt(20);
         numbers = 1 + random.nextInt(random.nextBoolean() ? 4 : 30);
@@ -37,12 +30,6 @@ public final class RandomRunsTest {
     }
 
     public static void main(String[] args) throws ReflectiveOperationException {
-        for (Method method : Model.class.getMethods()) {
-            if (method.getDeclaringClass() == Model.class) {
-                Method twin = MacroBench.class.getMethod(method.getName(), method.getParameterTypes());
-                METHODS.put(method.getName(), new Method[] {twin, method});
-            }
-        }
         for (int run = 0; run < RUNS; run++) {
             new RandomRunsTest(run).play();
         }
@@ -50,35 +37,11 @@ public final class RandomRunsTest {
         Check.finish();
     }
 
-    private static Object outcome(Method method, Object on, Object[] operands) throws ReflectiveOperationException {
-        try {
-            return method.invoke(on, operands);
-        } catch (InvocationTargetException thrown) {
-            return "throws " + thrown.getCause().getClass().getSimpleName();
-        }
-    }
-
-    /** Asks both; the first difference of a run is told with all its calls. */
-    private Object ask(String name, Object... operands) throws ReflectiveOperationException {
-        Method[] twins = METHODS.get(name);
-        Object due = outcome(twins[1], model, operands);
-        Object got = outcome(twins[0], bench, operands);
-        told.append(name).append(java.util.Arrays.toString(operands)).append(' ').append(got).append('\n');
-        if (same) {
-            Check.same(name, due, got);
-            same = due.equals(got);
-            if (!same) {
-                System.out.println(told);
-            }
-        }
-        return due;
-    }
-
     private void play() throws ReflectiveOperationException {
         int calls = 0;
-        while (calls < CALLS && same) {
+        while (calls < CALLS && twins.areAlike()) {
             int block = 1 + random.nextInt(40);
-            for (int line = 0; line < block && same; line++) {
+            for (int line = 0; line < block && twins.areAlike(); line++) {
                 feedOne();
                 calls++;
             }
@@ -86,23 +49,23 @@ public final class RandomRunsTest {
                 endAll();
             }
             assembleAndMend();
-            compareAll();
+            twins.compareAll();
             if (random.nextInt(4) == 0) {
-                ask("clear");
+                twins.ask("clear");
                 depth = 0;
                 inMacro = false;
                 macros = 0;
-                compareAll();
+                twins.compareAll();
             }
             calls += 10;
         }
     }
 
     private void endAll() throws ReflectiveOperationException {
-        while (depth > 0 && accepted(ask("end"))) {
+        while (depth > 0 && accepted(twins.ask("end"))) {
             depth--;
         }
-        if (inMacro && accepted(ask("endMacro"))) {
+        if (inMacro && accepted(twins.ask("endMacro"))) {
             inMacro = false;
         }
     }
@@ -113,17 +76,17 @@ public final class RandomRunsTest {
 
     /** Programs that are drawn by chance lack labels: some are given what they lack. */
     private void assembleAndMend() throws ReflectiveOperationException {
-        ask("assemble");
-        Object fault = ask("fault");
+        twins.ask("assemble");
+        Object fault = twins.ask("fault");
         OUTCOMES.merge("fault " + fault, 1, Integer::sum);
         for (int name = 0; name < 20 && fault.equals('u') && random.nextInt(20) > 0; name++) {
-            ask("label", name);
-            ask("assemble");
-            fault = ask("fault");
+            twins.ask("label", name);
+            twins.ask("assemble");
+            fault = twins.ask("fault");
         }
         OUTCOMES.merge("mended " + fault, 1, Integer::sum);
         if (fault.equals('n')) {
-            OUTCOMES.merge("passes " + ask("passes"), 1, Integer::sum);
+            OUTCOMES.merge("passes " + twins.ask("passes"), 1, Integer::sum);
         }
     }
 
@@ -143,48 +106,48 @@ public final class RandomRunsTest {
     private void feedOne() throws ReflectiveOperationException {
         int draw = random.nextInt(30 + labelWeight);
         if (draw < 4) {
-            ask("word", number(999));
+            twins.ask("word", number(999));
         } else if (draw < 6) {
-            ask("operation", random.nextInt(40) == 0 ? random.nextInt(120) : 10 + random.nextInt(90), number(99));
+            twins.ask("operation", random.nextInt(40) == 0 ? random.nextInt(120) : 10 + random.nextInt(90), number(99));
         } else if (draw < 10) {
-            ask("jump", name());
+            twins.ask("jump", name());
         } else if (draw < 12) {
-            ask("address", name());
+            twins.ask("address", name());
         } else if (draw < 13) {
-            ask("align", random.nextInt(30) == 0 ? random.nextInt(12) : 2 + random.nextInt(7));
+            twins.ask("align", random.nextInt(30) == 0 ? random.nextInt(12) : 2 + random.nextInt(7));
         } else if (draw < 16) {
             callOne();
         } else if (draw < 22) {
             beginOne();
         } else if (draw < 27) {
             if (depth > 0 || random.nextInt(wrongness) == 0) {
-                depth -= accepted(ask("end")) ? 1 : 0;
+                depth -= accepted(twins.ask("end")) ? 1 : 0;
             }
         } else if (draw < 29) {
             macroOrEnd();
         } else {
-            ask("label", name());
+            twins.ask("label", name());
         }
     }
 
     private void callOne() throws ReflectiveOperationException {
         int most = inMacro ? macros - 1 : macros;
         int macro = most > 0 && random.nextInt(wrongness) > 0 ? random.nextInt(most) : random.nextInt(10) - 1;
-        ask("call", macro, number(999), number(999));
+        twins.ask("call", macro, number(999), number(999));
     }
 
     private void beginOne() throws ReflectiveOperationException {
         int draw = random.nextInt(4);
         Object answer;
         if (draw < 1) {
-            answer = ask("block");
+            answer = twins.ask("block");
         } else if (draw < 3) {
             boolean isOdd = random.nextInt(wrongness) == 0;
             int count = isOdd ? random.nextInt(13) - 3 : argumentOr(random.nextInt(counts + 1));
-            answer = ask("loop", count);
+            answer = twins.ask("loop", count);
         } else {
             int one = number(999);
-            answer = ask("when", one, random.nextBoolean() ? one : number(999));
+            answer = twins.ask("when", one, random.nextBoolean() ? one : number(999));
         }
         depth += accepted(answer) ? 1 : 0;
     }
@@ -192,35 +155,13 @@ public final class RandomRunsTest {
     private void macroOrEnd() throws ReflectiveOperationException {
         boolean bold = random.nextInt(wrongness) == 0;
         if (inMacro ? depth == 0 || bold : bold && random.nextBoolean()) {
-            if (accepted(ask("endMacro"))) {
+            if (accepted(twins.ask("endMacro"))) {
                 inMacro = false;
             }
         } else if (depth == 0 && !inMacro || bold) {
-            if (accepted(ask("macro"))) {
+            if (accepted(twins.ask("macro"))) {
                 inMacro = true;
                 macros++;
-            }
-        }
-    }
-
-    private void compareAll() throws ReflectiveOperationException {
-        for (String name : new String[] {"lines", "macros", "fault", "faultLine", "itemsByCounting", "words",
-            "relocations", "passes", "longJumps", "items", "shortShare", "meanWord"}) {
-            ask(name);
-        }
-        for (int name = -3; name < 22; name++) {
-            ask("labelAddress", name);
-        }
-        int words = ask("words") instanceof Integer count ? count : 1;
-        for (int index = -1; index <= words && same; index++) {
-            ask("wordAt", index);
-            ask("loadedWord", index, random.nextInt(10200) - 100);
-        }
-        int items = ask("items") instanceof Integer count ? count : 1;
-        for (int item = -1; item <= items && same; item++) {
-            for (String name : new String[] {"lineOf", "kindOf", "depthOf", "addressOf", "addressByAdding",
-                "targetOf"}) {
-                ask(name, item);
             }
         }
     }

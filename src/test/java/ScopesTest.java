@@ -15,6 +15,10 @@ public final class ScopesTest {
         labelsByArguments();
         argumentsInGroupsOfTheMacro();
         numbersPassedOnBelongToTheMacro();
+        argumentsAfterAnInnerCall();
+        eightMacrosDeep();
+        allTwentyNames();
+        siblingsHaveScopesOfTheirOwn();
         Check.finish();
     }
 
@@ -232,5 +236,112 @@ public final class ScopesTest {
         x.call(1, 3, 0);
         x.call(0, 3, 0);
         targets("a number that a macro passes on", x, 1, 3, 0, 0);
+    }
+
+    private static void argumentsAfterAnInnerCall() {
+        MacroBench x = new MacroBench();
+        x.macro();
+        x.label(0);
+        x.address(-2);
+        x.address(-1);
+        x.endMacro();
+        x.macro();
+        x.label(1);
+        x.label(2);
+        x.call(0, 1, 2);
+        x.address(-1);
+        x.address(-2);
+        x.endMacro();
+        x.label(1);
+        x.label(2);
+        x.call(1, 1, 2);
+        targets("the arguments are still those of the outer macro", x, 3, 2, 0, 1);
+    }
+
+    /** Each macro defines the names 0 and 1 for itself and passes on those of the program's block, changed round. */
+    private static void eightMacrosDeep() {
+        MacroBench x = new MacroBench();
+        for (int macro = 0; macro < 8; macro++) {
+            x.macro();
+            x.block();
+            x.label(0);
+            x.label(1);
+            if (macro > 0) {
+                x.call(macro - 1, -2, -1);
+            } else {
+                x.address(-1);
+                x.jump(-2);
+            }
+            x.end();
+            x.endMacro();
+        }
+        x.label(0);
+        x.label(1);
+        x.block();
+        x.label(0);
+        x.label(1);
+        x.call(7, 0, 1);
+        x.end();
+        targets("names that eight macros passed on", x, 3, 2);
+        Check.same("names that eight macros passed on: depth", 8, x.depthOf(x.items() - 1));
+    }
+
+    private static void allTwentyNames() {
+        MacroBench x = new MacroBench();
+        int[] due = new int[40];
+        for (int name = 0; name < 20; name++) {
+            x.jump(name);
+            due[name] = 39 - name;
+        }
+        for (int name = 19; name >= 0; name--) {
+            x.label(name);
+        }
+        x.block();
+        for (int name = 0; name < 20; name++) {
+            x.address(name);
+            due[20 + name] = name < 10 ? 60 + name : 39 - name;
+        }
+        for (int name = 0; name < 10; name++) {
+            x.label(name);
+        }
+        x.end();
+        targets("all names", x, due);
+        for (int name = 0; name < 20; name++) {
+            Check.same("labelAddress " + name, x.addressOf(39 - name), x.labelAddress(name));
+        }
+    }
+
+    private static void siblingsHaveScopesOfTheirOwn() {
+        MacroBench x = new MacroBench();
+        x.block();
+        x.label(3);
+        x.end();
+        x.block();
+        x.address(3);
+        x.end();
+        x.label(3);
+        targets("two blocks", x, 2);
+        x.clear();
+        x.loop(2);
+        x.when(0, 0);
+        x.block();
+        x.label(3);
+        x.end();
+        x.end();
+        x.jump(3);
+        x.end();
+        x.label(3);
+        targets("a block in a condition in a round", x, 4, 4);
+        x.clear();
+        x.macro();
+        x.jump(3);
+        x.endMacro();
+        x.macro();
+        x.label(3);
+        x.endMacro();
+        x.call(1, 0, 0);
+        x.call(0, 0, 0);
+        x.label(3);
+        targets("two macros", x, 2);
     }
 }

@@ -10,12 +10,12 @@ public final class WordsTest {
     }
 
     public static void main(String[] args) {
-        beforeAssembling();
         eachKind();
         alignments();
         distances();
         passes();
         jumpsFeelOnlyThePassBefore();
+        longJumpsStayLong();
         relocation();
         labelAddresses();
         mostWords();
@@ -31,27 +31,6 @@ public final class WordsTest {
         for (int index : new int[] {-1, due.length, 5000, Integer.MIN_VALUE, Integer.MAX_VALUE}) {
             Check.throwing(what + ": wordAt " + index, INDEX, () -> x.wordAt(index));
         }
-    }
-
-    private static void beforeAssembling() {
-        MacroBench x = new MacroBench();
-        x.word(1);
-        allMissing("nothing assembled", x);
-        x.jump(0);
-        x.assemble();
-        allMissing("a fault", x);
-    }
-
-    private static void allMissing(String what, MacroBench x) {
-        Check.throwing(what + ": words", MISSING, x::words);
-        Check.throwing(what + ": wordAt", MISSING, () -> x.wordAt(0));
-        Check.throwing(what + ": wordAt -1", MISSING, () -> x.wordAt(-1));
-        Check.throwing(what + ": relocations", MISSING, x::relocations);
-        Check.throwing(what + ": loadedWord", MISSING, () -> x.loadedWord(0, 0));
-        Check.throwing(what + ": loadedWord -1 -1", MISSING, () -> x.loadedWord(-1, -1));
-        Check.throwing(what + ": labelAddress", MISSING, () -> x.labelAddress(0));
-        Check.throwing(what + ": passes", MISSING, x::passes);
-        Check.throwing(what + ": longJumps", MISSING, x::longJumps);
     }
 
     private static void eachKind() {
@@ -74,6 +53,15 @@ public final class WordsTest {
         y.call(0, 123, 45);
         y.call(0, 0, 99);
         words("arguments", y, 123, 2045, 0, 2099);
+        y.macro();
+        y.call(0, -2, -1);
+        y.operation(30, -1);
+        y.word(-2);
+        y.call(0, 999, 0);
+        y.word(-2);
+        y.endMacro();
+        y.call(1, 1, 2);
+        words("arguments behind an inner call", y, 123, 2045, 0, 2099, 2, 2001, 3001, 2, 999, 2000, 2);
     }
 
     private static void alignments() {
@@ -285,6 +273,28 @@ public final class WordsTest {
         Check.same("at the end of the pass: words", 11, y.assemble());
         Check.same("at the end of the pass: passes", 3, y.passes());
         Check.same("at the end of the pass: long jumps", 2, y.longJumps());
+    }
+
+    private static void longJumpsStayLong() {
+        MacroBench x = new MacroBench();
+        x.jump(0);
+        x.jump(1);
+        for (int word = 0; word < 6; word++) {
+            x.word(1);
+        }
+        x.align(5);
+        x.label(1);
+        for (int word = 0; word < 3; word++) {
+            x.word(1);
+        }
+        x.label(0);
+        // At first the second jump stands at 1 and label 1, behind the alignment, at 10, 8 beyond it. Once both are
+        // long, the second one stands at 2 and the label still at 10, only 7 beyond it.
+        words("a long jump whose distance shrinks", x, 20000, 13, 20000, 10, 1, 1, 1, 1, 1, 1, 1, 1, 1);
+        Check.same("a long jump whose distance shrinks: passes", 2, x.passes());
+        Check.same("a long jump whose distance shrinks: long jumps", 2, x.longJumps());
+        Check.same("assembled again", 13, x.assemble());
+        Check.same("assembled again: passes", 2, x.passes());
     }
 
     private static void relocation() {
