@@ -297,15 +297,21 @@ public final class CountingTest {
 
     private static void rememberedOnlyUntilClear() {
         MacroBench x = new MacroBench();
-        for (int words = 1; words < 12; words++) {
-            x.macro();
-            for (int word = 0; word < words; word++) {
-                x.word(0);
+        for (int round = 1; round < 12; round++) {
+            long due = 0;
+            for (int macro = 0; macro < 3; macro++) {
+                x.macro();
+                x.loop(9);
+                x.end();
+                for (int word = 0; word < round - macro; word++) {
+                    x.word(0);
+                    due++;
+                }
+                x.endMacro();
+                x.call(macro, 1, 2);
+                Check.same("round " + round + ", macro " + macro, due, x.itemsByCounting());
             }
-            x.endMacro();
-            x.call(0, 1, 2);
-            Check.same("a macro of " + words + " words", (long) words, x.itemsByCounting());
-            Check.same("clear", words + 3, x.clear());
+            x.clear();
             Check.same("cleared", 0L, x.itemsByCounting());
         }
     }

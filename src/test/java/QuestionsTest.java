@@ -45,8 +45,8 @@ public final class QuestionsTest {
         faults();
         nothingToBeSeen();
         noJumpsOrWords();
-        wordIndices();
-        itemIndices();
+        indicesInTurn();
+        indicesChangeNothing();
         bases();
         labelNames();
         targets();
@@ -246,26 +246,30 @@ public final class QuestionsTest {
         }
     }
 
-    private static void wordIndices() {
+    private static void inTurn(MacroBench x, int words, int items) {
+        String what = words + " words and " + items + " items";
+        Check.same(what + ": assemble", words, x.assemble());
+        indices(what, x, OF_WORDS, words);
+        indices(what, x, OF_ITEMS, items);
+        x.clear();
+        indices(what + ", cleared", x, OF_WORDS, words);
+        indices(what + ", cleared", x, OF_ITEMS, items);
+    }
+
+    /** One object after another program each time: what it held before has to be gone. */
+    private static void indicesInTurn() {
         MacroBench x = new MacroBench();
         x.word(1);
-        x.assemble();
-        indices("one word", x, OF_WORDS, 1);
-        x.clear();
+        inTurn(x, 1, 1);
         Programs.addWords(x, 200);
-        x.assemble();
-        indices("200 words", x, OF_WORDS, 200);
-        x.clear();
+        inTurn(x, 200, 200);
         x.label(0);
         x.word(1);
-        x.assemble();
-        indices("one word after 200", x, OF_WORDS, 1);
-        x.clear();
-        x.assemble();
-        indices("no words after one", x, OF_WORDS, 0);
-        Refusals.check("wordAt without such a word", INDEX, QuestionsTest::assembledLabelAndJump, y -> y.wordAt(1));
-        Refusals.check("loadedWord without such a word", INDEX, QuestionsTest::assembledLabelAndJump,
-            y -> y.loadedWord(-1, 0));
+        inTurn(x, 1, 2);
+        x.word(1);
+        x.align(8);
+        inTurn(x, 8, 2);
+        inTurn(x, 0, 0);
     }
 
     private static Object assembledLabelAndJump(MacroBench x) {
@@ -273,26 +277,18 @@ public final class QuestionsTest {
         return x.assemble();
     }
 
-    private static void itemIndices() {
-        MacroBench x = new MacroBench();
-        assembledLabelAndJump(x);
-        indices("two items", x, OF_ITEMS, 2);
-        x.clear();
-        Programs.addWords(x, 200);
-        x.assemble();
-        indices("200 items", x, OF_ITEMS, 200);
-        x.clear();
-        x.label(0);
-        x.assemble();
-        indices("one item after 200", x, OF_ITEMS, 1);
-        x.clear();
-        x.assemble();
-        indices("no items after one", x, OF_ITEMS, 0);
+    private static void indicesChangeNothing() {
+        for (Question question : OF_WORDS) {
+            for (int index : new int[] {-1, 1}) {
+                Refusals.check(question.name + " " + index, INDEX, QuestionsTest::assembledLabelAndJump,
+                    x -> question.ask.of(x, index));
+            }
+        }
         for (Question question : OF_ITEMS) {
-            Refusals.check(question.name + " below all items", INDEX, QuestionsTest::assembledLabelAndJump,
-                y -> question.ask.of(y, -1));
-            Refusals.check(question.name + " above all items", INDEX, QuestionsTest::assembledLabelAndJump,
-                y -> question.ask.of(y, 2));
+            for (int index : new int[] {-1, 2}) {
+                Refusals.check(question.name + " " + index, INDEX, QuestionsTest::assembledLabelAndJump,
+                    x -> question.ask.of(x, index));
+            }
         }
     }
 
