@@ -314,9 +314,15 @@ public final class MacroBench {
         }
     }
 
-    /** Rows are read through this wherever the loop around it does not show that the index is within them. */
+    /** Rows are read by this, and written by the next, wherever the lines around do not show the index within. */
     private static int at(int[] row, int index) {
         return index >= 0 && index < row.length ? row[index] : NONE;
+    }
+
+    private static void setAt(int[] row, int index, int value) {
+        if (index >= 0 && index < row.length) {
+            row[index] = value;
+        }
     }
 
     private static boolean isArgument(int operand) {
@@ -425,8 +431,8 @@ public final class MacroBench {
                 throw new IllegalArgumentException("an operand is neither in its range nor an argument");
             }
             int line = append(kind, first, second, fixed);
-            if (beginsGroup(kind) && openCount < MAX_LINES) {
-                openGroups[openCount] = line;
+            if (beginsGroup(kind)) {
+                setAt(openGroups, openCount, line);
                 openCount++;
             }
             return line;
@@ -450,7 +456,7 @@ public final class MacroBench {
                 throw new IllegalStateException("there are 8 macros");
             }
             int line = append(MACRO, 0, 0, 0);
-            macroLines[macroCount] = line;
+            setAt(macroLines, macroCount, line);
             macroCount++;
             inMacro = true;
             return macroCount - 1;
@@ -508,10 +514,8 @@ public final class MacroBench {
         }
 
         private void pair(int begin, int end) {
-            if (begin >= 0 && begin < end && end < MAX_LINES) {
-                partners[begin] = end;
-                partners[end] = begin;
-            }
+            setAt(partners, begin, end);
+            setAt(partners, end, begin);
         }
     }
 
@@ -591,9 +595,7 @@ public final class MacroBench {
         }
 
         void aim(int item, int label) {
-            if (item >= 0 && item < itemCount) {
-                targets[item] = label;
-            }
+            setAt(targets, item, label);
         }
 
         /** The first item with a name that no scope defines, or NONE. */
@@ -724,11 +726,11 @@ public final class MacroBench {
             if (scope < 0) {
                 return;
             }
-            for (int item = firstItems[scope]; item < listing.size(); item++) {
+            for (int item = at(firstItems, scope); item < listing.size(); item++) {
                 if (at(homes, item) == scope) {
                     int label = labelIn(scope, listing.value(item));
                     listing.aim(item, label);
-                    setHome(item, label == NONE ? outers[scope] : NONE);
+                    setHome(item, label == NONE ? at(outers, scope) : NONE);
                 }
             }
             scopeCount--;
@@ -740,15 +742,13 @@ public final class MacroBench {
         }
 
         void define(int scope, int name, int item) {
-            if (scope >= 0 && scope < MAX_SCOPES && name >= 0 && name < NAMES) {
-                labels[scope * NAMES + name] = item;
+            if (name >= 0 && name < NAMES) {
+                setAt(labels, scope * NAMES + name, item);
             }
         }
 
         void setHome(int item, int scope) {
-            if (item >= 0 && item < MAX_ITEMS) {
-                homes[item] = scope;
-            }
+            setAt(homes, item, scope);
         }
     }
 
@@ -889,7 +889,7 @@ public final class MacroBench {
             }
             if (kind != WHEN) {
                 scopes.open(scopes.current());
-                setRoundsLeft(line, rounds);
+                setAt(roundsLeft, line, rounds);
             }
             return line + 1;
         }
@@ -901,7 +901,7 @@ public final class MacroBench {
             }
             scopes.close();
             int left = at(roundsLeft, begin) - 1;
-            setRoundsLeft(begin, left);
+            setAt(roundsLeft, begin, left);
             if (left <= 0) {
                 return end + 1;
             }
@@ -909,14 +909,8 @@ public final class MacroBench {
             return begin + 1;
         }
 
-        private void setRoundsLeft(int line, int rounds) {
-            if (line >= 0 && line < MAX_LINES) {
-                roundsLeft[line] = rounds;
-            }
-        }
-
         private int enterMacro(int line) {
-            if (depth < 0 || depth >= MAX_MACROS) {
+            if (depth >= MAX_MACROS) {
                 return line + 1;
             }
             int first = source.first(line);
@@ -925,7 +919,7 @@ public final class MacroBench {
             pass(SECOND_ARGUMENT, valueOf(second), scopeOf(second));
             scopes.open(OUTERMOST);
             depth++;
-            callLines[depth] = line;
+            setAt(callLines, depth, line);
             return source.macroLine(source.fixed(line)) + 1;
         }
 
@@ -942,10 +936,8 @@ public final class MacroBench {
         /** Puts an argument where the next depth finds it, with the scope to which its name belongs. */
         private void pass(int argument, int value, int scope) {
             int place = placeOf(argument, depth + 1);
-            if (place >= 0 && place < arguments.length && place < argumentScopes.length) {
-                arguments[place] = value;
-                argumentScopes[place] = scope;
-            }
+            setAt(arguments, place, value);
+            setAt(argumentScopes, place, scope);
         }
 
         private static int placeOf(int argument, int depth) {
@@ -1117,7 +1109,7 @@ public final class MacroBench {
                     if (rounds == 0) {
                         line = Math.max(line, source.partner(line));
                     } else {
-                        setOuterFactor(line, factor);
+                        setAt(outerFactors, line, factor);
                         factor = limited((long) factor * rounds);
                     }
                 } else {
@@ -1140,12 +1132,6 @@ public final class MacroBench {
             int one = valueOfOperand(source.first(line), first, second);
             int other = valueOfOperand(source.second(line), first, second);
             return countMacro(macro, one, other);
-        }
-
-        private void setOuterFactor(int line, int factor) {
-            if (line >= 0 && line < MAX_LINES) {
-                outerFactors[line] = factor;
-            }
         }
 
         private static int limited(long count) {

@@ -14,6 +14,7 @@ public final class WordsTest {
         alignments();
         distances();
         passes();
+        alignmentsBetweenJumps();
         jumpsFeelOnlyThePassBefore();
         longJumpsStayLong();
         relocation();
@@ -83,96 +84,88 @@ public final class WordsTest {
         }
     }
 
-    /** A label, so many words, and a jump back; or a jump, so many words, and a label. */
-    private static MacroBench apart(boolean back, int words) {
-        MacroBench x = new MacroBench();
-        if (back) {
-            x.label(0);
-        } else {
-            x.jump(0);
-        }
-        for (int word = 0; word < words; word++) {
+    private static void addOnes(MacroBench x, int count) {
+        for (int word = 0; word < count; word++) {
             x.word(1);
         }
-        if (back) {
-            x.jump(0);
-        } else {
-            x.label(0);
-        }
+    }
+
+    private static void jumps(String what, MacroBench x, int words, int passes, int longJumps) {
+        Check.same(what + ": words", words, x.assemble());
+        Check.same(what + ": passes", passes, x.passes());
+        Check.same(what + ": long jumps", longJumps, x.longJumps());
+    }
+
+    private static MacroBench back(int words) {
+        MacroBench x = new MacroBench();
+        x.label(0);
+        addOnes(x, words);
+        x.jump(0);
+        return x;
+    }
+
+    private static MacroBench ahead(int words) {
+        MacroBench x = new MacroBench();
+        x.jump(0);
+        addOnes(x, words);
+        x.label(0);
         return x;
     }
 
     private static void distances() {
-        MacroBench back = apart(true, 7);
-        Check.same("distance -8: words", 8, back.assemble());
+        MacroBench back = back(7);
+        jumps("distance -8", back, 8, 1, 0);
         Check.same("distance -8: the jump", 10000, back.wordAt(7));
-        Check.same("distance -8: passes", 1, back.passes());
-        Check.same("distance -8: long jumps", 0, back.longJumps());
-        MacroBench farBack = apart(true, 8);
-        Check.same("distance -9: words", 10, farBack.assemble());
+        MacroBench farBack = back(8);
+        jumps("distance -9", farBack, 10, 2, 1);
         Check.same("distance -9: the jump", 20000, farBack.wordAt(8));
         Check.same("distance -9: its label", 0, farBack.wordAt(9));
-        Check.same("distance -9: passes", 2, farBack.passes());
-        Check.same("distance -9: long jumps", 1, farBack.longJumps());
-        MacroBench ahead = apart(false, 7);
-        Check.same("distance 7: words", 8, ahead.assemble());
+        MacroBench ahead = ahead(7);
+        jumps("distance 7", ahead, 8, 1, 0);
         Check.same("distance 7: the jump", 10015, ahead.wordAt(0));
-        Check.same("distance 7: passes", 1, ahead.passes());
-        MacroBench farAhead = apart(false, 8);
-        Check.same("distance 8: words", 10, farAhead.assemble());
+        MacroBench farAhead = ahead(8);
+        jumps("distance 8", farAhead, 10, 2, 1);
         Check.same("distance 8: the jump", 20000, farAhead.wordAt(0));
         Check.same("distance 8: its label", 10, farAhead.wordAt(1));
-        Check.same("distance 8: passes", 2, farAhead.passes());
         Check.same("distance 8: relocations", 1, farAhead.relocations());
     }
 
-    /** Jumps behind one another, each of which becomes long only when the one behind it has. */
     private static void passes() {
         MacroBench none = new MacroBench();
-        none.assemble();
-        Check.same("passes without lines", 1, none.passes());
+        jumps("without lines", none, 0, 1, 0);
         none.word(1);
-        none.assemble();
-        Check.same("passes without jumps", 1, none.passes());
+        jumps("without jumps", none, 1, 1, 0);
         MacroBench x = new MacroBench();
         x.jump(0);
-        x.word(1);
-        x.word(1);
-        x.word(1);
+        addOnes(x, 3);
         x.jump(1);
-        x.word(1);
-        x.word(1);
-        x.word(1);
+        addOnes(x, 3);
         x.label(0);
-        x.word(1);
-        x.word(1);
-        x.word(1);
-        x.word(1);
-        x.word(1);
+        addOnes(x, 5);
         x.label(1);
-        Check.same("one after the other: words", 15, x.assemble());
-        Check.same("one after the other: passes", 3, x.passes());
-        Check.same("one after the other: long jumps", 2, x.longJumps());
+        jumps("one after the other", x, 15, 3, 2);
         Check.same("one after the other: the first", 10, x.wordAt(1));
         Check.same("one after the other: the second", 15, x.wordAt(6));
-        MacroBench y = new MacroBench();
-        for (int name = 0; name < 10; name++) {
-            y.jump(name);
-            for (int word = 0; word < 2; word++) {
-                y.word(1);
-            }
-            if (name >= 2) {
-                y.label(name - 2);
-                y.word(1);
-            }
-        }
-        y.label(8);
-        y.word(1);
-        y.word(1);
-        y.word(1);
-        y.label(9);
+        MacroBench y = chain();
         y.assemble();
         Check.same("a chain of jumps: passes", referencePasses(y), y.passes());
+    }
+
+    /** Jumps behind one another, each of which becomes long only when the one behind it has. */
+    private static MacroBench chain() {
+        MacroBench x = new MacroBench();
+        for (int name = 0; name < 10; name++) {
+            x.jump(name);
+            addOnes(x, 2);
+            if (name >= 2) {
+                x.label(name - 2);
+                x.word(1);
+            }
+        }
+        x.label(8);
+        addOnes(x, 3);
+        x.label(9);
+        return x;
     }
 
     /** Finds the passes once more from the listing alone. */
@@ -200,101 +193,75 @@ public final class WordsTest {
         }
     }
 
-    private static void jumpsFeelOnlyThePassBefore() {
+    private static void alignmentsBetweenJumps() {
         MacroBench x = new MacroBench();
         x.jump(0);
         x.align(8);
         x.jump(1);
         x.label(0);
-        for (int word = 0; word < 8; word++) {
-            x.word(1);
-        }
+        addOnes(x, 8);
         x.label(1);
         // At first the jumps stand at 0 and 8; label 0 is at 9, 8 beyond the first, label 1 at 17, 8 beyond the
         // second: both become long in the same pass. The alignment gives way to the first one's second word.
-        Check.same("alignment gives way: words", 18, x.assemble());
-        Check.same("alignment gives way: passes", 2, x.passes());
-        Check.same("alignment gives way: long jumps", 2, x.longJumps());
-        MacroBench y = new MacroBench();
-        y.word(1);
-        y.word(1);
-        y.word(1);
-        y.label(2);
-        y.jump(0);
-        y.align(4);
-        y.jump(2);
-        for (int word = 0; word < 6; word++) {
-            y.word(1);
-        }
-        y.label(0);
+        jumps("alignment gives way", x, 18, 2, 2);
+        x.clear();
+        addOnes(x, 3);
+        x.label(2);
+        x.jump(0);
+        x.align(4);
+        x.jump(2);
+        addOnes(x, 6);
+        x.label(0);
         // By the first pass's addresses the first jump is 3 to 11, 7 beyond it, and the second one 4 to 3, which
         // is 2 before it; nothing becomes long.
-        Check.same("alignment without words: words", 11, y.assemble());
-        Check.same("alignment without words: passes", 1, y.passes());
-        y.clear();
-        y.label(0);
-        y.align(2);
-        y.jump(1);
-        for (int word = 0; word < 8; word++) {
-            y.word(1);
-        }
-        y.label(1);
-        y.align(2);
-        y.jump(0);
+        jumps("alignment without words", x, 11, 1, 0);
+        x.clear();
+        x.label(0);
+        x.align(2);
+        x.jump(1);
+        addOnes(x, 8);
+        x.label(1);
+        x.align(2);
+        x.jump(0);
         // The second jump stands at 10 in both layouts, so both become long in the first pass.
-        Check.same("both in one pass: words", 12, y.assemble());
-        Check.same("both in one pass: passes", 2, y.passes());
-        y.clear();
-        y.jump(0);
-        y.word(1);
-        y.jump(1);
-        for (int word = 0; word < 5; word++) {
-            y.word(1);
-        }
-        y.label(0);
-        y.word(1);
-        y.word(1);
-        y.word(1);
-        y.label(1);
+        jumps("both in one pass", x, 12, 2, 2);
+    }
+
+    private static void jumpsFeelOnlyThePassBefore() {
+        MacroBench x = new MacroBench();
+        x.jump(0);
+        x.word(1);
+        x.jump(1);
+        addOnes(x, 5);
+        x.label(0);
+        addOnes(x, 3);
+        x.label(1);
         // The first jump is 7 away until the second, 8 away, has become long.
-        Check.same("in the pass behind it: words", 13, y.assemble());
-        Check.same("in the pass behind it: passes", 3, y.passes());
-        Check.same("in the pass behind it: long jumps", 2, y.longJumps());
-        y.clear();
-        y.label(0);
-        y.jump(1);
-        for (int word = 0; word < 6; word++) {
-            y.word(1);
-        }
-        y.jump(0);
-        y.word(1);
-        y.label(1);
+        jumps("in the pass behind it", x, 13, 3, 2);
+        x.clear();
+        x.label(0);
+        x.jump(1);
+        addOnes(x, 6);
+        x.jump(0);
+        x.word(1);
+        x.label(1);
         // The second jump is 8 back until the first one, 8 away, has become long at the end of the pass.
-        Check.same("at the end of the pass: words", 11, y.assemble());
-        Check.same("at the end of the pass: passes", 3, y.passes());
-        Check.same("at the end of the pass: long jumps", 2, y.longJumps());
+        jumps("at the end of the pass", x, 11, 3, 2);
     }
 
     private static void longJumpsStayLong() {
         MacroBench x = new MacroBench();
         x.jump(0);
         x.jump(1);
-        for (int word = 0; word < 6; word++) {
-            x.word(1);
-        }
+        addOnes(x, 6);
         x.align(5);
         x.label(1);
-        for (int word = 0; word < 3; word++) {
-            x.word(1);
-        }
+        addOnes(x, 3);
         x.label(0);
         // At first the second jump stands at 1 and label 1, behind the alignment, at 10, 8 beyond it. Once both are
         // long, the second one stands at 2 and the label still at 10, only 7 beyond it.
         words("a long jump whose distance shrinks", x, 20000, 13, 20000, 10, 1, 1, 1, 1, 1, 1, 1, 1, 1);
-        Check.same("a long jump whose distance shrinks: passes", 2, x.passes());
-        Check.same("a long jump whose distance shrinks: long jumps", 2, x.longJumps());
-        Check.same("assembled again", 13, x.assemble());
-        Check.same("assembled again: passes", 2, x.passes());
+        jumps("a long jump whose distance shrinks", x, 13, 2, 2);
     }
 
     private static void relocation() {
@@ -303,9 +270,7 @@ public final class WordsTest {
         x.address(0);
         x.jump(0);
         x.jump(1);
-        for (int word = 0; word < 5; word++) {
-            x.word(1);
-        }
+        addOnes(x, 5);
         x.label(0);
         x.word(2);
         x.word(3);
